@@ -10,6 +10,8 @@ public final class BoardsTest {
         fortyWires();
         stripTakesWires();
         stripTakesLevels();
+        aFullBoardIsUsed();
+        aBareBoardDoesNothing();
         levelRefused();
         levelsAreOfOneBoard();
         Check.end();
@@ -87,6 +89,54 @@ public final class BoardsTest {
         x.strip(0);
         x.tabulate(0, 0);
         Check.due("a line for level 3", 1, x.tear());
+    }
+
+    private static CardOffice withFullBoard() {
+        CardOffice x = Desk.officeWith(0, "1K", "1");
+        for (int k = 0; k < 10; k++) {
+            Desk.wireAll(x, 0, 0, 32 + k, 0, 42 + k, 0, 64 + 2 * k);
+        }
+        Desk.wireAll(x, 0, 1, 15, 0, 14, 0, 13, 0, 12, 0, 96, 0, 97, 0, 98, 0, 99, 0, 0, 32, 55);
+        return x;
+    }
+
+    private static void aFullBoardIsUsed() {
+        CardOffice x = withFullBoard();
+        Check.due("wires", 40, x.count(10));
+        Check.due("tabulate", 2, x.tabulate(0, 0));
+        String line = "1".repeat(20);
+        Check.due("paper", line + "|" + line + "|" + " ".repeat(23) + "2", Desk.paper(x));
+        Check.due("reproduce", 2, x.reproduce(0, 0, 1));
+        Check.due("into", "1           111K|1           111", Desk.deck(x, 1));
+        Check.due("gang", 2, x.gang(0, 0, 1));
+        Check.due("deck", "1K|1           111K", Desk.deck(x, 0));
+    }
+
+    private static void aBareBoardDoesNothing() {
+        CardOffice x = withFullBoard();
+        x.strip(0);
+        x.level(0, 0, 0);
+        Check.due("tabulate", 2, x.tabulate(0, 0));
+        Check.due("paper", "|", Desk.paper(x));
+        Check.due("gang", 2, x.gang(0, 0, 1));
+        Check.due("deck", "1K|1", Desk.deck(x, 0));
+        for (int to : new int[] {32, 15, 64, 96, 97, 98, 99}) {
+            CardOffice y = Desk.officeWith(0, "1 K", "3");
+            Desk.wireAll(y, 0, 0, to);
+            y.strip(0);
+            for (int counter = 0; counter < 4; counter++) {
+                y.level(0, counter, 0);
+            }
+            y.tabulate(0, 0);
+            Check.due("paper without a wire to " + to, 1, y.count(9));
+            y.gang(0, 0, 2);
+            Check.due("deck without a wire to " + to, "1 K|3", Desk.deck(y, 0));
+        }
+        CardOffice z = Desk.officeWith(0, "1", "1");
+        Desk.wireAll(z, 0, 32, 32);
+        z.strip(0);
+        z.tabulate(0, 0);
+        Check.due("paper without a wire from an exit", "", Desk.paper(z));
     }
 
     private static void levelRefused() {

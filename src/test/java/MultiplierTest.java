@@ -101,15 +101,16 @@ public final class MultiplierTest {
             int from = Math.floorMod(field, 16);
             int columns = Math.floorDiv(field, 16) + 1;
             boolean isField = columns >= 1 && columns <= 6 && from + columns <= 16;
+            // A column apart, so that a field that is none can't be refused for another reason.
             int other = from >= 8 ? 0 : 15;
             int tried = field;
             if (isField) {
                 Check.due("rate " + field, 0, x.multiply(0, tried, tried, other));
                 Check.due("product " + field, 0, x.multiply(0, other, other, tried));
             } else {
-                Check.dueThrow("rate " + field, Check.ARGUMENT, () -> x.multiply(0, tried, 15, 0));
-                Check.dueThrow("quantity " + field, Check.ARGUMENT, () -> x.multiply(0, 15, tried, 0));
-                Check.dueThrow("product " + field, Check.ARGUMENT, () -> x.multiply(0, 0, 0, tried));
+                Check.dueThrow("rate " + field, Check.ARGUMENT, () -> x.multiply(0, tried, other, other == 0 ? 1 : 14));
+                Check.dueThrow("quantity " + field, Check.ARGUMENT, () -> x.multiply(0, other, tried, other == 0 ? 1 : 14));
+                Check.dueThrow("product " + field, Check.ARGUMENT, () -> x.multiply(0, other, other, tried));
             }
         }
         for (int wrong : new int[] {MIN, MAX}) {

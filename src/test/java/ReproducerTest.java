@@ -59,6 +59,9 @@ public final class ReproducerTest {
         Desk.wireAll(z, 0, 0, 5, 20, 5);
         Check.due("made", 1, z.reproduce(0, 0, 1));
         Check.due("a digit against a column", "2 at 1", Desk.fault(z));
+        z.cut(0, 1, 2);
+        Check.due("made", 1, z.reproduce(0, 2, 1));
+        Check.due("an earlier fault is over", "0 at -1", Desk.fault(z));
     }
 
     private static void reproduceWithoutRoom() {

@@ -12,6 +12,7 @@ public final class SorterTest {
         sortOfAllSigns();
         sortKeepsOrder();
         sortCountsPasses();
+        sortOfAllCards();
         sortedAlready();
         sortRefused();
         Check.end();
@@ -91,6 +92,17 @@ public final class SorterTest {
         CardOffice z = Desk.officeWith(0, "29", "1S", "1R");
         Check.due("passes", 3, z.sort(0, 0, 1));
         Check.due("deck", "1S|1R|29", Desk.deck(z, 0));
+    }
+
+    private static void sortOfAllCards() {
+        CardOffice x = new CardOffice();
+        for (int k = 199; k >= 0; k--) {
+            Desk.putAll(x, 0, String.format("%03d", k));
+        }
+        Check.due("passes", 3, x.sort(0, 0, 2));
+        for (int k = 0; k < 200; k++) {
+            Check.due("card " + k, String.format("%03d", k), Desk.cardAt(x, 0, k));
+        }
     }
 
     private static void sortedAlready() {

@@ -19,6 +19,7 @@ public final class TabulatorTest {
         tooBig();
         totalsMakeRoomInCounters();
         noRoomForACard();
+        totalsThatDoNotComeNeedNoRoom();
         noRoomForLastTotals();
         leastFault();
         countersBeginAtZero();
@@ -267,6 +268,20 @@ public final class TabulatorTest {
         Check.due("no room for all lines of a card", "4 at 98", Desk.fault(y));
         Check.due("not one is printed", 98, y.count(9));
         Check.due("counters", "98 0 0 0", Desk.counters(y));
+    }
+
+    private static void totalsThatDoNotComeNeedNoRoom() {
+        CardOffice x = new CardOffice();
+        for (int k = 0; k < 101; k++) {
+            Desk.putAll(x, 0, k < 98 ? "5" : "6");
+        }
+        Desk.wireAll(x, 0, 0, 99, 0, 96);
+        for (int counter = 0; counter < 4; counter++) {
+            x.level(0, counter, counter);
+        }
+        Check.due("98 cards, a total, a card", 99, x.tabulate(0, 0));
+        Check.due("fault", "4 at 99", Desk.fault(x));
+        Check.due("lines", 100, x.count(9));
     }
 
     private static void noRoomForLastTotals() {
