@@ -52,9 +52,8 @@ public final class CardOffice {
     private final FaultLight light = new FaultLight();
     private final Sorter sorter = new Sorter();
     private final Collator collator = new Collator();
-    private final Reproducer reproducer = new Reproducer(light);
-    private final Multiplier multiplier = new Multiplier(light);
-    private final Tabulator tabulator = new Tabulator(light);
+    private final Reproducer reproducer = new Reproducer();
+    private final Tabulator tabulator = new Tabulator();
 
     public CardOffice() {
         for (int deck = 0; deck < DECKS; deck++) {
@@ -140,14 +139,14 @@ public final class CardOffice {
         if (!isBoard(board) || !areTwoDecks(deck, into)) {
             throw new IllegalArgumentException("no such board or two decks");
         }
-        return reproducer.copyDeck(boards[board], decks[deck], decks[into], MOST_CARDS - cardsInAll());
+        return reproducer.copyDeck(boards[board], decks[deck], decks[into], MOST_CARDS - cardsInAll(), light);
     }
 
     public int gang(int board, int deck, int column) throws IllegalArgumentException {
         if (!isBoard(board) || !isDeck(deck) || !isColumn(column)) {
             throw new IllegalArgumentException("no such board, deck or column");
         }
-        return reproducer.punchGangs(boards[board], decks[deck], column);
+        return reproducer.punchGangs(boards[board], decks[deck], column, light);
     }
 
     public int multiply(int deck, int rate, int quantity, int product) throws IllegalArgumentException {
@@ -157,14 +156,14 @@ public final class CardOffice {
         if (haveCommonColumn(product, rate) || haveCommonColumn(product, quantity)) {
             throw new IllegalArgumentException("the product has a column of another field");
         }
-        return multiplier.goThrough(decks[deck], rate, quantity, product);
+        return Multiplier.goThrough(decks[deck], rate, quantity, product, light);
     }
 
     public int tabulate(int board, int deck) throws IllegalArgumentException {
         if (!isBoard(board) || !isDeck(deck)) {
             throw new IllegalArgumentException("no such board or deck");
         }
-        return tabulator.goThrough(boards[board], decks[deck]);
+        return tabulator.goThrough(boards[board], decks[deck], light);
     }
 
     public boolean cut(int deck, int n, int into) {
@@ -708,14 +707,9 @@ public final class CardOffice {
     }
 
     private static final class Reproducer {
-        private final FaultLight light;
         private final Jacks columns = new Jacks(0, COLUMNS);
 
-        Reproducer(FaultLight light) {
-            this.light = light;
-        }
-
-        int copyDeck(Board board, Deck deck, Deck into, int room) {
+        int copyDeck(Board board, Deck deck, Deck into, int room, FaultLight light) {
             for (int i = 0; i < deck.size; i++) {
                 board.bringFromCard(deck.at(i), columns);
                 if (columns.clashed) {
@@ -729,7 +723,7 @@ public final class CardOffice {
             return light.allDone(deck.size);
         }
 
-        int punchGangs(Board board, Deck deck, int column) {
+        int punchGangs(Board board, Deck deck, int column, FaultLight light) {
             Card master = null;
             for (int i = 0; i < deck.size; i++) {
                 Card card = deck.at(i);
@@ -767,13 +761,7 @@ public final class CardOffice {
     }
 
     private static final class Multiplier {
-        private final FaultLight light;
-
-        Multiplier(FaultLight light) {
-            this.light = light;
-        }
-
-        int goThrough(Deck deck, int rate, int quantity, int product) {
+        static int goThrough(Deck deck, int rate, int quantity, int product, FaultLight light) {
             for (int i = 0; i < deck.size; i++) {
                 int fault = multiplyOn(deck.at(i), rate, quantity, product);
                 if (fault != NO_FAULT) {
@@ -850,18 +838,13 @@ public final class CardOffice {
     }
 
     private static final class Tabulator {
-        private final FaultLight light;
         private final int[] counters = new int[COUNTERS];
         private final Paper paper = new Paper();
         private final Jacks totalLine = new Jacks(PRINT_JACKS, POSITIONS);
         private final Jacks cardLine = new Jacks(PRINT_JACKS, POSITIONS);
         private final Jacks entries = new Jacks(ENTRY_JACKS, COUNTERS * WHEELS);
 
-        Tabulator(FaultLight light) {
-            this.light = light;
-        }
-
-        int goThrough(Board board, Deck deck) {
+        int goThrough(Board board, Deck deck, FaultLight light) {
             Arrays.fill(counters, 0);
             boolean listing = board.isListing();
             for (int i = 0; i < deck.size; i++) {
@@ -874,10 +857,10 @@ public final class CardOffice {
                 doTotals(board, broken);
                 doCard(listing);
             }
-            return finish(board, deck.size);
+            return finish(board, deck.size, light);
         }
 
-        private int finish(Board board, int cards) {
+        private int finish(Board board, int cards, FaultLight light) {
             if (cards > 0) {
                 int fault = faultOfLastTotals(board);
                 if (fault != NO_FAULT) {
