@@ -5,14 +5,20 @@ final class Check {
     static final Class<IndexOutOfBoundsException> INDEX = IndexOutOfBoundsException.class;
 
     private static int wrong = 0;
+    private static String sentence = "";
 
     private Check() {
+    }
+
+    /** The sentence of the document that the answers from here on are asked of: a wrong one tells it. */
+    static void sentence(String words) {
+        sentence = "[" + words + "] ";
     }
 
     static void due(String what, Object want, Object got) {
         if (!want.equals(got)) {
             wrong++;
-            System.out.println(what + ": got " + got + ", due is " + want);
+            System.out.println(sentence + what + ": got " + got + ", due is " + want);
         }
     }
 

@@ -44,8 +44,19 @@ final class Desk {
 
     static String deck(CardOffice office, int deck) {
         StringBuilder text = new StringBuilder();
-        for (int i = 0; i < office.count(deck); i++) {
+        int cards = office.count(deck);
+        for (int i = 0; i < cards; i++) {
             text.append(i == 0 ? "" : "|").append(cardAt(office, deck, i));
+        }
+        return text.toString();
+    }
+
+    /** The signs in one column of all cards of a deck: where it has many, whole cards take too many calls. */
+    static String column(CardOffice office, int deck, int column) {
+        StringBuilder text = new StringBuilder();
+        int cards = office.count(deck);
+        for (int i = 0; i < cards; i++) {
+            text.append((char) office.sign(deck, i, column));
         }
         return text.toString();
     }
@@ -60,7 +71,8 @@ final class Desk {
 
     static String paper(CardOffice office) {
         StringBuilder text = new StringBuilder();
-        for (int i = 0; i < office.count(9); i++) {
+        int lines = office.count(9);
+        for (int i = 0; i < lines; i++) {
             text.append(i == 0 ? "" : "|").append(line(office, i));
         }
         return text.toString();

@@ -32,12 +32,16 @@ public final class FaceTest {
     public static void main(String[] args) {
         theFace();
         privateNames();
-        aNewObject();
+        emptyDecks();
+        bareBoards();
+        blankPaper();
+        nothingWasDone();
         objectsAreApart();
         Check.end();
     }
 
     private static void theFace() {
+        Check.sentence("The public face");
         Class<CardOffice> office = CardOffice.class;
         Check.due("public and final", Modifier.PUBLIC | Modifier.FINAL, office.getModifiers());
         Check.due("NONE", -1, CardOffice.NONE);
@@ -77,6 +81,7 @@ public final class FaceTest {
     }
 
     private static void privateNames() {
+        Check.sentence("LANGUAGE.md, rule 1: no private method bears the name of a public one");
         TreeSet<String> faceNames = new TreeSet<>();
         for (Method method : CardOffice.class.getMethods()) {
             faceNames.add(method.getName());
@@ -94,23 +99,43 @@ public final class FaceTest {
         }
     }
 
-    private static void aNewObject() {
+    private static void emptyDecks() {
+        Check.sentence("Promise 1: Empty decks");
         CardOffice x = new CardOffice();
-        for (int what = 0; what <= 15; what++) {
-            Check.due("count " + what, 0, x.count(what));
-        }
-        Check.due("counters", "0 0 0 0", Desk.counters(x));
-        Check.due("fault", "0 at -1", Desk.fault(x));
-        for (int board = 0; board < 4; board++) {
-            Check.due("strip " + board, 0, x.strip(board));
-        }
-        Check.due("tear", 0, x.tear());
         for (int deck = 0; deck < 8; deck++) {
             int d = deck;
+            Check.due("cards of deck " + deck, 0, x.count(deck));
             Check.dueThrow("sign of deck " + deck, Check.INDEX, () -> x.sign(d, 0, 0));
+            Check.due("a card cut from deck " + deck, false, x.cut(deck, 1, (deck + 1) % 8));
         }
-        Check.dueThrow("printed", Check.INDEX, () -> x.printed(0, 0));
+        Check.due("cards in all", 0, x.count(8));
+    }
+
+    private static void bareBoards() {
+        Check.sentence("Promise 1: bare boards");
+        CardOffice x = new CardOffice();
+        for (int board = 0; board < 4; board++) {
+            Check.due("wires of board " + board, 0, x.count(10 + board));
+            Check.due("strip " + board, 0, x.strip(board));
+        }
         newBoardsHaveLevelThree();
+    }
+
+    private static void blankPaper() {
+        Check.sentence("Promise 1: blank paper");
+        CardOffice x = new CardOffice();
+        Check.due("lines", 0, x.count(9));
+        Check.dueThrow("printed", Check.INDEX, () -> x.printed(0, 0));
+        Check.due("tear", 0, x.tear());
+    }
+
+    private static void nothingWasDone() {
+        Check.sentence("Promise 1: nothing was done so far");
+        CardOffice x = new CardOffice();
+        Check.due("passes", 0, x.count(14));
+        Check.due("brought by the collator", 0, x.count(15));
+        Check.due("counters", "0 0 0 0", Desk.counters(x));
+        Check.due("fault", "0 at -1", Desk.fault(x));
     }
 
     /** One line behind the last card tells that every counter's level is 3. */
@@ -124,6 +149,7 @@ public final class FaceTest {
     }
 
     private static void objectsAreApart() {
+        Check.sentence("Promise 1: a new object has nothing of another one");
         CardOffice x = Desk.officeWith(0, "1");
         CardOffice y = new CardOffice();
         x.wire(0, 0, 99);
