@@ -499,10 +499,11 @@ public final class CardOffice {
         private int brought;
 
         int mergeOn(Deck deck, Deck other, int from, int to) {
+            int all = deck.size + other.size;
             int i = 0;
             int j = 0;
             brought += other.size;
-            while (i < deck.size || j < other.size) {
+            for (int k = 0; k < all; k++) {
                 if (orderOf(deck, i, other, j, from, to) <= 0) {
                     rest.add(deck.at(i));
                     i++;
@@ -513,25 +514,28 @@ public final class CardOffice {
             }
             other.size = 0;
             deck.takeAllOf(rest);
-            return deck.size;
+            return all;
         }
 
         int matchOn(Deck deck, Deck other, Deck into, int from, int to) {
+            int all = deck.size + other.size;
             int sizeBefore = into.size;
             int i = 0;
             int j = 0;
-            while (i < deck.size || j < other.size) {
+            Card latest = null;
+            for (int k = 0; k < all; k++) {
                 int order = orderOf(deck, i, other, j, from, to);
-                if (order < 0) {
-                    rest.add(deck.at(i));
+                if (order <= 0) {
+                    latest = order == 0 ? deck.at(i) : latest;
+                    Deck goal = order == 0 ? into : rest;
+                    goal.add(deck.at(i));
                     i++;
-                } else if (order > 0) {
-                    otherRest.add(other.at(j));
-                    j++;
                 } else {
-                    Card key = deck.at(i);
-                    i = bringAlike(key, deck, i, into, from, to);
-                    j = bringAlike(key, other, j, into, from, to);
+                    // The deck's cards of a key have all come when the other's turn is: the latest one tells the key.
+                    boolean alike = latest != null && other.at(j).compareOn(latest, from, to) == 0;
+                    Deck goal = alike ? into : otherRest;
+                    goal.add(other.at(j));
+                    j++;
                 }
             }
             deck.takeAllOf(rest);
@@ -549,15 +553,6 @@ public final class CardOffice {
                 return 1;
             }
             return deck.at(i).compareOn(other.at(j), from, to);
-        }
-
-        private static int bringAlike(Card key, Deck deck, int first, Deck into, int from, int to) {
-            int i = first;
-            while (i < deck.size && deck.at(i).compareOn(key, from, to) == 0) {
-                into.add(deck.at(i));
-                i++;
-            }
-            return i;
         }
     }
 

@@ -15,6 +15,7 @@ public final class PaperEdgesTest {
         tearLeavesTheRest();
         faultAtFirst();
         faultWithout();
+        faultIsOver();
         faultAtTheFirstAndTheLastCard();
         faultAtTheEnd();
         faultOfTheLatestMachine();
@@ -205,6 +206,29 @@ public final class PaperEdgesTest {
             default:
                 x.tabulate(0, 7);
                 break;
+        }
+    }
+
+    private static void faultIsOver() {
+        Check.sentence("Promise 19: of the latest, a run without a fault behind one with fault 2");
+        CardOffice x = Desk.officeWith(0, "K12", "");
+        Desk.putAll(x, 1, "K11", "");
+        // Both columns at a column, at a position and at an entry; two counters at one position.
+        Desk.wireAll(x, 0, 1, 8, 2, 8);
+        Desk.wireAll(x, 1, 0, 99, 1, 32, 2, 32);
+        Desk.wireAll(x, 2, 1, 64, 2, 64);
+        Desk.wireAll(x, 3, 1, 64, 2, 70, 32, 32, 38, 32);
+        Check.due("reproduce", 0, x.reproduce(0, 0, 2));
+        Check.due("reproduce another deck", 2, x.reproduce(0, 1, 2));
+        Check.due("fault", "0 at -1", Desk.fault(x));
+        Check.due("gang", 1, x.gang(0, 0, 0));
+        Check.due("gang another deck", 2, x.gang(0, 1, 0));
+        Check.due("fault", "0 at -1", Desk.fault(x));
+        for (int board = 1; board <= 3; board++) {
+            Check.due("tabulate by board " + board, board == 3 ? 2 : 0, x.tabulate(board, 0));
+            Check.due("fault", 2, x.fault(0));
+            Check.due("tabulate another deck", 2, x.tabulate(board, 1));
+            Check.due("fault", "0 at -1", Desk.fault(x));
         }
     }
 

@@ -246,6 +246,9 @@ public final class SorterEdgesTest {
                 CardOffice x = Desk.officeWith(0, "222", "111", last.toString());
                 Check.due("passes with " + last, 4, x.sort(0, 0, 2));
             }
+            CardOffice y = Desk.officeWith(0, "" + sign, "9", "9");
+            Check.due("passes with " + sign + " at the first card", 2, y.sort(0, 0, 0));
+            Check.due("deck", "9|9|" + sign, Desk.deck(y, 0));
         }
     }
 

@@ -304,11 +304,11 @@ public final class TabulatorEdgesTest {
         Check.sentence("Terms: 32 + 6 c + w is wheel w of counter c; 32 .. 55 the print positions 0 .. 23");
         for (int exit = 0; exit < 24; exit++) {
             CardOffice x = Desk.officeWith(0, "654321");
+            Desk.wireAll(x, 0, 32 + exit, 55 - exit);
             int counter = exit / 6;
             for (int wheel = 0; wheel < 6; wheel++) {
                 Desk.wireAll(x, 0, 5 - wheel, 64 + 6 * counter + wheel);
             }
-            Desk.wireAll(x, 0, 32 + exit, 55 - exit);
             done(x, 1, x.tabulate(0, 0));
             Check.due("exit " + exit, " ".repeat(23 - exit) + (exit % 6 + 1), Desk.paper(x));
         }
